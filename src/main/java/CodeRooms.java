@@ -748,15 +748,25 @@ public final class CodeRooms {
                 return NONE;
             }
             least = ABOVE_ALL_COSTS;
-            tryFrom(0, 0);
+            tryFrom(0, 0, fixedRooms());
             for (int i = 0; i < plan.housedCount; i++) {
                 plan.housed[i].place = found[i];
             }
             return least;
         }
 
+        private int fixedRooms() {
+            int rooms = 0;
+            for (int i = 0; i < plan.housedCount; i++) {
+                if (plan.housed[i].fixedTo != NONE) {
+                    rooms |= 1 << plan.housed[i].fixedTo;
+                }
+            }
+            return rooms;
+        }
+
         /** What is placed never gets cheaper, so a beginning that costs as much as the best so far is left. */
-        private void tryFrom(int depth, long soFar) {
+        private void tryFrom(int depth, long soFar, int unlike) {
             if (soFar >= least) {
                 return;
             }
@@ -765,13 +775,19 @@ public final class CodeRooms {
                 System.arraycopy(trial, 0, found, 0, MOST_SEARCHED);
                 return;
             }
-            tryRooms(depth, soFar);
+            tryRooms(depth, soFar, unlike);
         }
 
-        private void tryRooms(int depth, long soFar) {
+        /** Empty rooms that no routine is fixed to are all alike, so the first of them stands for the others. */
+        private void tryRooms(int depth, long soFar, int unlike) {
+            boolean triedAlike = false;
             for (int to = 0; to < plan.roomCount(); to++) {
-                trial[depth] = to;
-                tryFrom(depth + 1, soFar + priceOfAdding(depth, to));
+                boolean isAlike = (unlike & 1 << to) == 0;
+                if (!isAlike || !triedAlike) {
+                    trial[depth] = to;
+                    tryFrom(depth + 1, soFar + priceOfAdding(depth, to), unlike | 1 << to);
+                }
+                triedAlike |= isAlike;
             }
         }
 
