@@ -81,7 +81,7 @@ public final class WildTest {
         checks.end();
     }
 
-    /** More than 512 calls can tell: the number stays at its most, and COST does not wrap. */
+    /** More than 512 calls can tell: the number stays at its most. */
     private static void mostThatIsTold(Checks checks) {
         CodeRooms rooms = Names.with(2);
         int last = 0;
