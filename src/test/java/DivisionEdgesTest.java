@@ -283,6 +283,11 @@ public final class DivisionEdgesTest {
         x.fix(2, -1);
         same("with a room that is not there", x.best(), 1_000_003);
         same("the first, for it never holds", Names.division(x), "012");
+        CodeRooms middle = Names.with(3);
+        middle.set(ROOMS, 3);
+        middle.fix(2, 1);
+        same("with the middle room told to the last one", middle.best(), 3);
+        same("the first leaves it free", Names.division(middle), "021");
         CodeRooms had = Names.with(2);
         had.put(0, 1);
         same("the one that is had is as good", had.best(), 2);
@@ -353,6 +358,21 @@ public final class DivisionEdgesTest {
         hubs.set(LIMIT, 1);
         same("three hubs", Names.division(hubs), "0-1--");
         same("words of hubs count nowhere", Names.nameOf(hubs, 0), "n");
+        hubWithNumberZero();
+    }
+
+    /** Were the hub one of the others, both words would have 3, and a would be ahead. */
+    private static void hubWithNumberZero() {
+        CodeRooms x = Names.with("hub", "a", "a_", "b", "_a", "_");
+        x.tie(0, 1, SHARES, 1);
+        x.tie(0, 2, SHARES, 1);
+        x.set(LIMIT, 1);
+        Names.divide(x, "-00011");
+        same("a has 2 * 2 - 1 * 3, b has 1 * 2", Names.nameOf(x, 0), "b");
+        x.change(3, 0);
+        same("a change of hub 0 and one more is alone", x.alone(), 1);
+        x.change(1, 0);
+        same("one of hub 0 is not", x.alone(), 1);
     }
 
     /** "of these the first by letters (one that begins another one is ahead of it)". */
@@ -431,15 +451,25 @@ public final class DivisionEdgesTest {
         x.tie(4, 5, CALLS, 1);
         same("calls inside lead nowhere else", x.ring(2), 4);
         same("an empty object", new CodeRooms().ring(1), 2);
-        CodeRooms hubs = Names.with(3);
-        hubs.set(ROOMS, 3);
-        Names.divide(hubs, "012");
-        hubs.tie(0, 1, CALLS, 1);
-        hubs.tie(1, 2, CALLS, 1);
-        hubs.tie(2, 0, CALLS, 1);
-        same("over two others", hubs.ring(0), 7);
-        hubs.set(LIMIT, 1);
-        same("hubs are in no room to be led over", hubs.ring(1), 2);
+        ringsWithHubs();
+    }
+
+    /** "calls of their ROUTINES": a hub is of no room, so calls do not lead over it. */
+    private static void ringsWithHubs() {
+        CodeRooms x = Names.with(4);
+        x.set(ROOMS, 3);
+        Names.divide(x, "0210");
+        x.tie(0, 1, CALLS, 1);
+        x.tie(1, 2, CALLS, 1);
+        x.tie(2, 0, CALLS, 1);
+        x.tie(1, 3, SHARES, 1);
+        same("over two others", x.ring(0), 7);
+        x.set(LIMIT, 2);
+        same("the one between is a hub", Names.division(x), "0-10");
+        same("calls lead from the other room, not to it", x.ring(0), 1);
+        same("so of the other room", x.ring(1), 2);
+        x.tie(0, 2, CALLS, 1);
+        same("and past the hub they lead", x.ring(0), 3);
     }
 
     /** Two rings of three rooms each, whichever way the rooms are numbered; then a call between them, and one back. */
