@@ -29,6 +29,7 @@ public final class DivisionEdgesTest {
         bestOfFew();
         bestOfNone();
         firstOfTheBest();
+        bestWithRoomsTold();
         borders();
         bordersOfHubsAndOneRoom();
         greatestWord();
@@ -292,6 +293,21 @@ public final class DivisionEdgesTest {
         had.put(0, 1);
         same("the one that is had is as good", had.best(), 2);
         same("and yet the first is taken", Names.division(had), "01");
+    }
+
+    /** Rooms that are told to some are not alike, whichever is told last; a tied one goes with the one that is told. */
+    private static void bestWithRoomsTold() {
+        for (int one = 0; one < 3; one++) {
+            for (int two = 0; two < 3; two++) {
+                CodeRooms x = uneven(3);
+                x.set(ROOMS, 3);
+                x.tie(0, 1, SHARES, 10);
+                x.fix(1, one);
+                x.fix(2, two);
+                same("rooms " + one + " and " + two + " are told", x.best(), 0);
+                same("the first goes with the second", Names.division(x), "" + one + one + two);
+            }
+        }
     }
 
     /** "by how much COST would be more at least, if it went to another ROOM (below 0: less)". */
